@@ -48,15 +48,21 @@ final class Paper {
         return this;
     }
 
-    /** xref and the entries that came since the last one, each in a section of its own. */
+    /** xref and the entries that came since the last one, a section for each row of numbers. */
     Paper sections() {
         table = text.length();
         text.append("xref\n");
         if (numbers.isEmpty()) {
             text.append("0 0\n");
         }
-        for (int k = 0; k < numbers.size(); k++) {
-            text.append(numbers.get(k)).append(" 1\n").append(entries.get(k));
+        int behind;
+        for (int first = 0; first < numbers.size(); first = behind) {
+            behind = first + 1;
+            while (behind < numbers.size() && numbers.get(behind) == numbers.get(behind - 1) + 1) {
+                behind++;
+            }
+            text.append(numbers.get(first)).append(' ').append(behind - first).append('\n');
+            entries.subList(first, behind).forEach(text::append);
         }
         numbers.clear();
         entries.clear();

@@ -660,7 +660,7 @@ public final class PaperFile {
             this.parts = parts;
         }
 
-        int read(int i, int deep) {
+        private int read(int i, int deep) {
             switch (text.byteAt(i)) {
                 case '[': return readArray(i, deep);
                 case '(': return readString(i);

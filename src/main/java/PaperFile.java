@@ -920,8 +920,8 @@ public final class PaperFile {
         }
 
         /** Faults 1 to 4; 0 if there is none of them. */
-        int tablesFault(Book empty) {
-            book = empty;
+        int tablesFault(Book filled) {
+            book = filled;
             book.empty(text.from, text.to);
             for (int n = 0; n < OBJECTS; n++) {
                 table[n] = 0;
@@ -945,6 +945,7 @@ public final class PaperFile {
                     return 0;
                 }
             }
+            // A table too many is a fault of the table to come, as one that stands twice is.
             return 3;
         }
 
@@ -1048,7 +1049,7 @@ public final class PaperFile {
             return true;
         }
 
-        /** That there is no fault 5, behind the other faults. */
+        /** If there is no fault 5; to be asked only where there is none of the others. */
         boolean objectsStand() {
             int first = parts.top;
             for (int n = 0; n < book.size; n++) {

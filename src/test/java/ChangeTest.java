@@ -136,10 +136,14 @@ public final class ChangeTest {
         Desk.due("full", freed.pour(1, "d"), -3);
         freed.put(2, "1");
         Desk.due("nor is one that was put over", freed.pour(1, "d".repeat(100)), 4);
-        Desk young = Desk.opened(Paper.of("1"));
-        young.pour(1, "b".repeat(4000));
+        Desk young = Desk.opened(Paper.of("1", "2"));
+        young.pour(2, "b");
         young.open(Paper.of("1"));
-        Desk.due("nor one of another file", young.pour(1, "b"), 2);
+        young.open(Paper.of("1", Paper.stream("", "c".repeat(3000))));
+        Desk.due("nor one of another file", young.pour(1, "b".repeat(1500)), 3);
+        Desk zero = Desk.opened(Paper.of("1"));
+        zero.pour(0, "b".repeat(4000));
+        Desk.due("that of number 0 is one", zero.pour(1, "b"), -3);
     }
 
     private static void frees() {

@@ -87,6 +87,9 @@ public final class DecodeTest {
         decoded(f, "z9jq~>", "\0\0\0\0Ma");
         decoded(f, "s8W-!~>", "\u00ff\u00ff\u00ff\u00ff");
         decoded(f, "s8W*~>", "\u00ff\u00ff\u00ff");
+        decoded(f, "\\G~>", "\u00b9");
+        decoded(f, "^2E~>", "\u00beo");
+        decoded(f, "Ae0^~>", "f\17\u0089");
         for (String w : new String[] {"", "~", ">", "9jqo^", "9jqo^~", "9jqo^>", "9jqo^~> ", " ~>", "9~>", "9jqo^9~>", "9jz~>", "9jqoz~>",
                 "9jzqo^~>", "s8W-\"~>", "s8W-~>", "uuuuu~>", "uu~>", "9jq v~>", "9jqv^~>", "9jqo\u0080~>", "~>~>", "9j~>qo^~>", "9jqo^\n~>"}) {
             decoded(f, w, BROKEN);
@@ -131,6 +134,9 @@ public final class DecodeTest {
         sized("/Filter/Runs", "\u0081a".repeat(23) + "\u00c9a".repeat(1) + "\u0080", 3000);
         sized("/Filter/Runs", "\u0081a".repeat(23) + "\u00c8a".repeat(1) + "\u0080", -4);
         sized("/Filter/Runs", "\u0081a".repeat(1500) + "\u0080", -4);
+        String literal = ("\177" + "a".repeat(128)).repeat(23);
+        sized("/Filter/Runs", literal + "\67" + "b".repeat(56) + "\u0080", 3000);
+        sized("/Filter/Runs", literal + "\70" + "b".repeat(57) + "\u0080", -4);
         sized("/Filter/Base85", "z".repeat(750) + "~>", 3000);
         sized("/Filter/Base85", "z".repeat(750) + "!!~>", -4);
         sized("/Filter/Base85", "z".repeat(749) + "!!!!~>", 2999);

@@ -7,6 +7,7 @@ public final class PagesTest {
         roots();
         nodes();
         order();
+        numberZero();
         depth();
         withChanges();
         Desk.finish();
@@ -111,6 +112,15 @@ public final class PagesTest {
         many[0] = "<</Pages 2 0 R>>";
         many[1] = "<</Type/Pages/Kids[" + kids + "]>>";
         pages("sixty", book("/Root 1 0 R", many), numbers);
+    }
+
+    private static void numberZero() {
+        Desk d = Desk.opened(new Paper().object(0, PAGE).object(1, "<</Type/Pages/Kids[0 0 R]/Pages 1 0 R>>")
+                .trailer("<</Size 2/Root 1 0 R>>").last().toString());
+        pages("a page of number 0", d, 0);
+        pages("once more", d, 0);
+        Desk.due("Root is number 0", Desk.opened(new Paper().object(0, "<</Pages 1 0 R>>").object(1, PAGE)
+                .trailer("<</Size 2/Root 0 0 R>>").last().toString()).file.pages(), 1);
     }
 
     private static void depth() {

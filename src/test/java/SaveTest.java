@@ -8,6 +8,7 @@ public final class SaveTest {
         trailers();
         savedAgain();
         limits();
+        threeHundred();
         whatStays();
         Desk.finish();
     }
@@ -152,6 +153,32 @@ public final class SaveTest {
         Desk.due("OUT", over.bytes(0), 4);
         Desk.due("6001 bytes again", over.save(), -3);
         Desk.due("OUT stays", over.out(), "Size");
+        Desk first = Desk.opened(Paper.of("1", Paper.stream("", "b".repeat(2000))));
+        first.put(1, "2");
+        int size = first.save();
+        String saved = first.out();
+        Desk.due("a save", size > 2000, true);
+        first.pour(1, "x".repeat(4000));
+        Desk.due("far above 6000 bytes", first.save(), -3);
+        Desk.due("OUT stays", first.out(), saved);
+        first.put(1, "2");
+        Desk.due("the save of before", first.save(), size);
+    }
+
+    /** Numbers up to the last there is. */
+    private static void threeHundred() {
+        Paper paper = new Paper().trailer("<</Size 300>>").last();
+        Desk d = Desk.opened(paper.toString());
+        int table = paper.table();
+        d.put(298, "1");
+        d.put(299, "2");
+        Desk.due("in use", d.count(1), 2);
+        Desk.due("changed", d.count(3), 2);
+        Desk.due("parts", d.count(5), 2);
+        saved(d, paper.object(298, "1").object(299, "2").trailer("<</Size 300 /Prev " + table + ">>").last().toString());
+        Desk.due("pour", d.pour(299, "2"), 300);
+        Desk.due("free", d.free(299), 1);
+        Desk.due("changed", d.count(3), 2);
     }
 
     /** A file that has 6000 bytes when 4000 are poured into object 1. */

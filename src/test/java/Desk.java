@@ -11,14 +11,20 @@ import java.util.function.ToIntFunction;
 final class Desk {
     private static final int CALLS = 512;
     private static int wrong = 0;
+    private static String sentence = "";
 
     final PaperFile file = new PaperFile();
     private final List<ToIntFunction<PaperFile>> calls = new ArrayList<>();
 
+    /** The words of the document that the answers from here on rest on. */
+    static void says(String words) {
+        sentence = words;
+    }
+
     static void due(String what, Object got, Object want) {
         if (!got.equals(want)) {
             wrong++;
-            System.out.println(what + " answered " + got + ", due is " + want);
+            System.out.println((sentence.isEmpty() ? "" : "\"" + sentence + "\": ") + what + " answered " + got + ", due is " + want);
         }
     }
 
@@ -103,10 +109,34 @@ final class Desk {
         return call(x -> x.state(n, what));
     }
 
+    int trailer() {
+        return call(PaperFile::trailer);
+    }
+
+    int follow() {
+        return call(PaperFile::follow);
+    }
+
+    int octet(int i) {
+        return call(x -> x.octet(i));
+    }
+
+    int end(int n) {
+        return call(x -> x.end(n));
+    }
+
+    int pages() {
+        return call(PaperFile::pages);
+    }
+
+    int page(int k) {
+        return call(x -> x.page(k));
+    }
+
     /** OUT as a text. */
     String out() {
         int size = file.octet(-1);
-        int slice = CALLS - calls.size();
+        int slice = callsLeft();
         if (slice < 1) {
             throw new IllegalStateException("too many calls for one object");
         }
@@ -120,7 +150,42 @@ final class Desk {
         return text.toString();
     }
 
-    private PaperFile again() {
+    /** The call is one that leaves the TAPE alone, and all else, too, whatever it answers. */
+    void stays(String what, int want, ToIntFunction<PaperFile> call) {
+        String tape = Seen.tapeOf(this);
+        staysBut(tape, what, want, call);
+    }
+
+    /** The call is one that reads the TAPE: that is empty then, and all else is as it was. */
+    void staysButTape(String what, int want, ToIntFunction<PaperFile> call) {
+        staysBut("", what, want, call);
+    }
+
+    private void staysBut(String tape, String what, int want, ToIntFunction<PaperFile> call) {
+        String before = Seen.allOf(this);
+        due(what, call(call), want);
+        due(what + ": the TAPE behind it", Seen.tapeOf(this), tape);
+        String behind = Seen.allOf(this);
+        if (!behind.equals(before)) {
+            int at = 0;
+            while (at < Math.min(before.length(), behind.length()) && before.charAt(at) == behind.charAt(at)) {
+                at++;
+            }
+            due(what + ": what was to stay", near(behind, at), near(before, at));
+        }
+    }
+
+    private static String near(String text, int at) {
+        return text.substring(Math.max(0, at - 60), Math.min(text.length(), at + 60));
+    }
+
+    /** How many calls there may still be of one object. */
+    int callsLeft() {
+        return CALLS - calls.size();
+    }
+
+    /** Another object that was used alike. */
+    PaperFile again() {
         PaperFile alike = new PaperFile();
         for (ToIntFunction<PaperFile> call : calls) {
             call.applyAsInt(alike);

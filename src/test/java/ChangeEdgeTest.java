@@ -219,6 +219,8 @@ public final class ChangeEdgeTest {
         Desk last = Desk.opened(new Paper().trailer("<</Size 299>>").last().toString());
         last.tape("1").staysButTape("pour 300", -1, x -> x.pour(300));
         Desk.due("pour 299", last.pour(299, "1"), 300);
+        Desk.due("pour 299 again", last.pour(299, "2".repeat(4000)), 300);
+        last.tape("1").staysButTape("pour 0, full by 299", -3, x -> x.pour(0));
         last.tape("1").staysButTape("pour 300 of 300", -1, x -> x.pour(300));
     }
 
@@ -310,6 +312,7 @@ public final class ChangeEdgeTest {
         Desk.due("SIZE", d.count(0), 300);
         Desk.due("parts", d.count(5), 0);
         Desk.due("changed", d.count(3), 3);
+        counted(d, 300, 0, 1, 3, d.count(4), 0);
         Desk.due("put", d.put(1, "1"), 300);
         Desk.due("free again", d.free(1), 0);
         Desk.due("twice more", d.state(1, 1), 2);

@@ -37,6 +37,9 @@ final class Desk {
 
     int call(ToIntFunction<PaperFile> call) {
         calls.add(call);
+        if (calls.size() > CALLS) {
+            throw new IllegalStateException("too many calls for one object");
+        }
         return call.applyAsInt(file);
     }
 

@@ -539,8 +539,41 @@ public final class FileEdgeTest {
         }
         d.stays("no point", -2, x -> x.look(0));
         Desk.due("an object of the file before", d.go(9), -2);
+        Desk.due("its trailer", d.trailer(), 7);
+        Desk.due("names of its trailer", d.look(1), 1);
+        Desk.due("no Root", d.find("Root"), -2);
+        Desk.due("Size", d.find("Size"), 3);
+        Desk.due("value of Size", d.look(1), 3);
+        Desk.due("pages", d.pages(), -4);
         Desk.due("save", d.save(), text.length());
         Desk.due("OUT", d.out(), text);
+        manyFiles();
+    }
+
+    /** Nothing of the files before is left, however many there were. */
+    private static void manyFiles() {
+        Desk d = new Desk();
+        for (int k = 0; k < 4; k++) {
+            String many = new Paper().object(0, 4, "0").object(1, 5, "1").object(2, 6, "2").unused(3, 7).object(4, 8, "4")
+                    .trailer("<</Size 7/A 1/B[2 3]>>").last().toString();
+            Desk.due("open", d.open(many), 0);
+            d.put(0, "(x)");
+            d.put(1, "[]");
+            d.pour(7, "poured");
+            d.free(2);
+            String one = new Paper().object(6, 9, "6").trailer("<</Size 7>>").last().toString();
+            Desk.due("open another", d.open(one), 0);
+            for (int n = 0; n < 6; n++) {
+                Desk.due("in use " + n, d.state(n, 0), 0);
+                Desk.due("generation " + n, d.state(n, 1), 0);
+                Desk.due("changed " + n, d.state(n, 2), 0);
+            }
+            Desk.due("all that can be seen", Seen.allOf(d), Seen.allOf(Desk.opened(one)));
+            Desk.due("in use", d.count(1), 1);
+            Desk.due("tables", d.count(2), 1);
+            Desk.due("changed", d.count(3), 0);
+            d.stays("7", -2, x -> x.state(7, 0));
+        }
     }
 
     private static void openWithFault() {

@@ -25,7 +25,8 @@ public final class ModelTest {
 
     private ModelTest(int run) {
         this.run = run;
-        lot = new Random(run);
+        // Seeds side by side would begin with the same draws.
+        lot = new Random(run * 0x9E3779B97F4A7C15L);
     }
 
     public static void main(String[] args) {

@@ -109,6 +109,15 @@ public final class PointEdgeTest {
         Desk.due("trailer", d.trailer(), 7);
         Desk.due("its names", d.look(1), 3);
         Desk.due("of the latest", d.item(1) + d.look(1), 3 + 5);
+        d.trailer();
+        taken(d, 0, "Size");
+        taken(d, 1, "Young");
+        taken(d, 2, "Prev");
+        d.stays("its fourth name", -2, x -> x.bytes(3));
+        d.stays("its fourth value", -2, x -> x.item(3));
+        d.stays("no REF", -2, PaperFile::follow);
+        d.stays("no STREAM", -2, PaperFile::decode);
+        d.tape("Old").staysButTape("a name of the older one", -2, PaperFile::find);
         d.put(1, "1");
         Desk.due("trailer behind a change", d.trailer(), 7);
         Desk.due("its names", d.look(1), 3);
@@ -216,6 +225,19 @@ public final class PointEdgeTest {
         }
         d.tape("A".repeat(4000)).staysButTape("find 4000 bytes", -2, PaperFile::find);
         Desk other = Desk.opened(Paper.of("<</AB 1>>", "<<>>", Paper.stream("/AB 1", "abc")));
+        Desk inner = Desk.opened(Paper.of("<</A<</B 1>>/C 2>>", "[<</D 1>><</E 2>>]", "<</F 1>>"));
+        inner.go(1);
+        inner.item(0);
+        inner.tape("C").staysButTape("a name behind the DICT", -2, PaperFile::find);
+        inner.tape("A").staysButTape("the DICT's own name", -2, PaperFile::find);
+        Desk.due("a name in it", inner.find("B"), 3);
+        inner.go(1);
+        inner.tape("B").staysButTape("a name in a DICT in it", -2, PaperFile::find);
+        inner.go(2);
+        inner.item(0);
+        inner.tape("E").staysButTape("a name in the next DICT", -2, PaperFile::find);
+        inner.go(1);
+        inner.tape("F").staysButTape("a name of the next object", -2, PaperFile::find);
         other.go(2);
         other.tape("AB").staysButTape("find in an empty DICT", -2, PaperFile::find);
         other.tape("").staysButTape("find nothing in an empty DICT", -2, PaperFile::find);

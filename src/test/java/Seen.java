@@ -6,6 +6,9 @@ import java.util.function.ToIntFunction;
  * alike, as many as are needed so that none of them is used for more than 512 calls.
  */
 final class Seen {
+    /** Stands where else the number of an object stands. */
+    private static final int TRAILER = -1;
+
     private final Desk desk;
     private final StringBuilder text = new StringBuilder();
     private PaperFile alike;
@@ -118,17 +121,17 @@ final class Seen {
 
     private void objects() {
         int size = ask(x -> x.count(0));
-        for (int n = 0; n < size; n++) {
+        for (int n = TRAILER; n < size; n++) {
             part(n, new int[0]);
         }
-        room(4);
-        note("trailer", ask(PaperFile::trailer));
-        look();
     }
 
     private void part(int n, int[] path) {
         room(path.length + 5);
         int kind = note("kind", walk(n, path));
+        if (kind < 0) {
+            return;
+        }
         look();
         int names = kind == 9 ? ask(x -> x.look(2)) : kind >= 6 && kind <= 7 ? ask(x -> x.look(1)) : 0;
         if (kind == 4 || kind == 5) {
@@ -155,7 +158,7 @@ final class Seen {
     }
 
     private int walk(int n, int[] path) {
-        int kind = ask(x -> x.go(n));
+        int kind = ask(x -> n == TRAILER ? x.trailer() : x.go(n));
         for (int k : path) {
             kind = ask(x -> x.item(k));
         }

@@ -17,6 +17,7 @@ public final class TapeEdgeTest {
         highestFirst();
         howManyItHas();
         cutToItsFirst();
+        whatWasCutIsGone();
         endRefused();
         upTo512Calls();
         Desk.finish();
@@ -191,6 +192,50 @@ public final class TapeEdgeTest {
         for (int n : new int[] {3999, 4000}) {
             Desk.due("end " + n, new Desk().tape("a".repeat(4000)).end(n), n);
         }
+    }
+
+    /** Nothing that stood behind the cut, or was on the TAPE before, is read. */
+    private static void whatWasCutIsGone() {
+        String digits = "123456789";
+        for (int n = 1; n < 9; n++) {
+            Desk d = Desk.opened(Paper.of("<</AB 1/ABC 2>>")).tape(digits);
+            d.end(n);
+            Desk.due("put of the first " + n, d.call(x -> x.put(2)), 3);
+            d.go(2);
+            Desk.due("its value", d.look(1), Integer.parseInt(digits.substring(0, n)));
+        }
+        String[] texts = {"null", "-5", "/Name", "(x)", "<00>", "[1]", "<</A 1>>", "1 0 R"};
+        int[] kinds = {0, 3, 4, 5, 5, 6, 7, 8};
+        for (int k = 0; k < texts.length; k++) {
+            for (String more : new String[] {"5", " ", "\n", "x", "]", ">", "(", "/", " R", " 0 R", " 5 R"}) {
+                Desk d = Desk.opened(Paper.of("1")).tape(texts[k] + more);
+                d.end(texts[k].length());
+                Desk.due("put of " + texts[k] + " cut from " + more, d.call(x -> x.put(1)), 2);
+                Desk.due("its kind", d.go(1), kinds[k]);
+            }
+        }
+        Desk found = Desk.opened(Paper.of("<</A 1/AB 2/ABC 3>>"));
+        for (int n = 3; n >= 1; n--) {
+            found.go(1);
+            found.tape("ABCD").end(n);
+            Desk.due("find the first " + n, found.call(PaperFile::find), 3);
+            Desk.due("its value", found.look(1), n);
+        }
+        for (String more : new String[] {"\n", "0", "x", " "}) {
+            Desk opened = new Desk().tape(Paper.of("1") + more);
+            opened.end(Paper.of("1").length());
+            Desk.due("open of a text cut from more", opened.call(PaperFile::open), 0);
+            Desk.due("its bytes", opened.count(4), Paper.of("1").length());
+        }
+        Desk before = Desk.opened(Paper.of("1"));
+        before.tape("12]").staysButTape("a put that is broken", -4, x -> x.put(1));
+        Desk.due("a shorter one", before.put(1, "1"), 2);
+        before.tape("4]]]]]]]]").staysButTape("another", -4, x -> x.put(1));
+        Desk.due("then one that is cut", before.tape("56").end(1), 1);
+        Desk.due("put", before.call(x -> x.put(1)), 2);
+        before.go(1);
+        Desk.due("its value", before.look(1), 5);
+        Desk.due("nothing", before.put(1, ""), -4);
     }
 
     private static void endRefused() {

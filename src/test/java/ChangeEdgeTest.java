@@ -300,6 +300,11 @@ public final class ChangeEdgeTest {
         written.tape("b".repeat(2001)).staysButTape("full", -3, x -> x.pour(2));
         written.put(1, "<</Length 2000>>");
         Desk.due("a DICT is none", written.pour(2, "b".repeat(2001)), 4);
+        for (String value : new String[] {"1 65535 R", "(" + "s".repeat(100) + ")", "/" + "n".repeat(20), "999999999"}) {
+            Desk put = three();
+            put.put(1, value);
+            Desk.due("what was put is none", put.pour(2, "b".repeat(4000)), 4);
+        }
     }
 
     private static void freesOnes() {

@@ -23,6 +23,7 @@ public final class StreamEdgeTest {
         otherFilters();
         noneOfOthers();
         brokenStays();
+        nothingOfTheOneBefore();
         octets();
         Desk.finish();
     }
@@ -77,6 +78,17 @@ public final class StreamEdgeTest {
         }
         for (String dict : new String[] {"<<>>", "<</length 3>>", "<</Lengt 3>>", "<</Lengths 3>>", "<</A<</Length 3>>>>", "<</A/Length/B 3>>"}) {
             stream("no Length", 5, dict + "stream\nabc\nendstream");
+        }
+        for (String none : new String[] {"", "/length 0", "/Length null", "/Length -1", "/Length()", "/Length[]", "/Length<<>>", "/Length 0 0 R", "/Length 8 0 R",
+            "/Length 4 0 R", "/Length 5 0 R", "/Length 6 0 R", "/Length 9 1 R", "/Length 299 0 R"}) {
+            stream("no Length and no bytes: " + none, 5, "<<" + none + ">>stream\n\nendstream");
+            stream("no Length and one byte: " + none, 5, "<<" + none + ">>stream\nendstream");
+        }
+        Desk edges = Desk.opened(new Paper().object(0, Paper.stream("", "zero")).object(299, Paper.stream("", "last")).trailer("<</Size 300>>").last().toString());
+        for (int n : new int[] {0, 299}) {
+            Desk.due("a STREAM of number " + n, edges.go(n), 9);
+            Desk.due("its bytes", edges.decode(), 4);
+            Desk.due("OUT", edges.out(), n == 0 ? "zero" : "last");
         }
     }
 
@@ -169,6 +181,32 @@ public final class StreamEdgeTest {
         decoded("/Filter[/Runs/Hex]", "02616263fd7a80", BROKEN);
         decoded("/Filter[/Base85/Hex]", "1bggB~>", "AB");
         decoded("/Filter[" + "/Hex".repeat(60) + "]", "", "");
+        String runs = "\u0081x\u0002abc\u0080";
+        String grown = "x".repeat(128) + "abc";
+        for (int times = 1; times <= 4; times++) {
+            decoded("/Filter[" + "/Hex".repeat(times) + "/Runs]", hex(runs, times), grown);
+            decoded("/Filter[/Runs" + "/Hex".repeat(times) + "/Runs]", literal(hex(runs, times)), grown);
+            decoded("/Filter[" + "/Hex".repeat(times) + "/Base85]", hex("zz9jqo^z~>", times), "\0".repeat(8) + "Man " + "\0".repeat(4));
+        }
+    }
+
+    /** What Hex, so many times, makes these bytes of. */
+    private static String hex(String bytes, int times) {
+        StringBuilder pairs = new StringBuilder();
+        for (char b : bytes.toCharArray()) {
+            pairs.append(String.format("%02x", (int) b));
+        }
+        return times == 1 ? pairs.toString() : hex(pairs.toString(), times - 1);
+    }
+
+    /** What Runs makes these bytes of, without repeating any. */
+    private static String literal(String bytes) {
+        StringBuilder runs = new StringBuilder();
+        for (int at = 0; at < bytes.length(); at += 128) {
+            String some = bytes.substring(at, Math.min(bytes.length(), at + 128));
+            runs.append((char) (some.length() - 1)).append(some);
+        }
+        return runs.append('\u0080').toString();
     }
 
     private static void threeThousandBehindEach() {
@@ -319,6 +357,13 @@ public final class StreamEdgeTest {
         decoded("/Filter/Base85", "s8W~>", BROKEN);
         decoded("/Filter/Base85", "s8W,~>", "\u00ff\u00ff\u00ff");
         decoded("/Filter/Base85", "s8W-~>", BROKEN);
+        // With any other bytes behind them these would give one less.
+        decoded("/Filter/Base85", "F8~>", "\u0074");
+        decoded("/Filter/Base85", "rV~>", "\u00fe");
+        decoded("/Filter/Base85", "!\"J~>", "\0\16");
+        decoded("/Filter/Base85", "!-%~>", "\0\161");
+        decoded("/Filter/Base85", "!!#s~>", "\0\0\124");
+        decoded("/Filter/Base85", "!!-!~>", "\0\1\123");
         decoded("/Filter/Base85", "!v~>", BROKEN);
         decoded("/Filter/Base85", "! ~>", BROKEN);
     }
@@ -369,6 +414,30 @@ public final class StreamEdgeTest {
         d.go(3);
         d.stays("one with too many", -4, PaperFile::decode);
         Desk.due("OUT", d.out(), "ABC");
+    }
+
+    /** What one decode leaves behind is no part of the next. */
+    private static void nothingOfTheOneBefore() {
+        String[] filters = {"/Filter/Hex", "/Filter[/Hex/Hex]", "/Filter[/Hex/Hex/Hex]", "/Filter[/Hex/Runs]", "/Filter[/Hex/Base85]", "/Filter[/Runs/Hex]"};
+        String[] longer = {"41424344", "3431343234333434", "33343331333433313334333133343331", "0341424344fe4580", "396a716f5e396a716f5e7e3e", "\u0005414243\u0080"};
+        String[] shorter = {"414", "343134", "333433", "024142", "396a716f5e", "\u0002414\u0080"};
+        for (int k = 0; k < filters.length; k++) {
+            Desk d = Desk.opened(Paper.of(Paper.stream(filters[k], longer[k]), Paper.stream(filters[k], shorter[k])));
+            for (int times = 1; times <= 3; times++) {
+                d.go(1);
+                Desk.due("a decode of " + longer[k], d.decode() > 1, true);
+                d.go(2);
+                d.stays("then one of " + shorter[k], -4, PaperFile::decode);
+            }
+        }
+        Desk turns = Desk.opened(Paper.of(Paper.stream("/Filter/Hex", "414243"), Paper.stream("", "plain"), Paper.stream("/Filter[]", "empty"),
+                Paper.stream("/Filter[/Hex/Hex]", "34343435")));
+        String[] want = {"ABC", "plain", "empty", "DE"};
+        for (int n : new int[] {1, 2, 4, 3, 1, 3, 4, 2, 1, 1, 2}) {
+            turns.go(n);
+            Desk.due("decode of " + n, turns.decode(), want[n - 1].length());
+            Desk.due("OUT of " + n, turns.out(), want[n - 1]);
+        }
     }
 
     private static void octets() {

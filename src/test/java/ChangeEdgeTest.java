@@ -295,6 +295,11 @@ public final class ChangeEdgeTest {
         other.pour(1, "a".repeat(3000));
         other.open(Paper.of("1"));
         Desk.due("one of the file before is no value", other.pour(1, "b".repeat(4000)), 2);
+        Desk third = three();
+        third.pour(1, "a".repeat(1000));
+        third.open(Paper.of("1"));
+        third.open(Paper.of(Paper.stream("", "f".repeat(1000)), "2"));
+        Desk.due("nor is one of the file before that", third.pour(2, "b".repeat(4000)), 3);
         Desk written = three();
         written.pour(1, "a".repeat(2000));
         written.tape("b".repeat(2001)).staysButTape("full", -3, x -> x.pour(2));

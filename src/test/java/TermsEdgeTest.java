@@ -22,6 +22,7 @@ public final class TermsEdgeTest {
         namesAllDifferent();
         refs();
         whiteInRefs();
+        whiteBetween();
         deep();
         deepInStreamsAndTrailers();
         Desk.finish();
@@ -355,6 +356,26 @@ public final class TermsEdgeTest {
         is(NO_OBJECT, "1[]0 R");
         is(6, "[1 0 R/A]", 2);
         is(6, "[1 0 R(x)1 0 R]", 3);
+    }
+
+    private static void whiteBetween() {
+        Desk.says("White may stand between all these.");
+        for (String w : new String[] {"", " ", "\n", "\r", "\r\n", "  \n\r "}) {
+            is(6, w + "[" + w + "(a)" + w + "[" + w + "]" + w + "/B" + w + "<00>" + w + "<<" + w + ">>" + w + "]" + w, 5);
+            is(7, w + "<<" + w + "/A" + w + "[" + w + "]" + w + "/B" + w + "(c)" + w + "/D" + w + "<<" + w + "/E" + w + "/F" + w + ">>" + w + ">>" + w, 3);
+        }
+        for (String w : new String[] {"\t", "\f", "\0", "\u0085", "\u00a0", "%"}) {
+            is(NO_OBJECT, "[" + w + "]");
+            is(NO_OBJECT, "[[]" + w + "]");
+            is(NO_OBJECT, "<<" + w + ">>");
+            is(w.equals("%") ? 7 : NO_OBJECT, "<</A" + w + "[]>>");
+            is(NO_OBJECT, "<</A[]" + w + ">>");
+        }
+        for (String split : new String[] {"< <>>", "<<> >", "<</A 1> >", "< </A 1>>", "/ A", "nu ll", "- 1", "1 0 R s", "< 00>", "<0 0>"}) {
+            is(NO_OBJECT, split);
+        }
+        is(5, "( )", 1);
+        is(5, "(\r\n)", 2);
     }
 
     private static void deep() {

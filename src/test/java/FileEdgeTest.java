@@ -171,6 +171,12 @@ public final class FileEdgeTest {
             fault("older at " + prev, 3, new Paper().trailer("<</Size 1>>").trailer("<</Size 1/Prev " + prev + ">>").last());
         }
         fault("older where it is", 0, new Paper().trailer("<</Size 1>>").trailer("<</Size 1/Prev 9>>").last());
+        String before = new Paper().unused(1, 5).trailer("<</Size 2>>").last().toString();
+        for (int back = 1; back <= before.length(); back++) {
+            Desk d = Desk.opened(before);
+            d.tape(new Paper().trailer("<</Size 2/Prev -" + back + ">>").last().toString())
+                    .staysButTape("older by " + back + ", as if the file before were of this one", 3, PaperFile::open);
+        }
         String exact = new Paper().trailer("<</Size 1/Prev 0062>>").last(9).toString();
         Desk.due("the length of the file", exact.length(), 66);
         fault("older at the first place behind the file", 3, exact.replace("0062", "0066"));

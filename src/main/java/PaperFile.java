@@ -44,11 +44,11 @@ public final class PaperFile {
     private static final int TEXT_ROOM = FED_AT + 512 * FED;
 
     /**
-     * A part takes one byte and a half of its text at the least, so a trailer of 4000 bytes has
-     * fewer than 2700: room for the objects and the trailer of a file, the latest trailer of the
-     * text that is opened, and an older one or its objects.
+     * Each part begins with a byte of its own, so no text has more parts than bytes. Most are kept
+     * at once while a text is opened: the objects and the trailer of the file that there is, the
+     * latest trailer of the text, and an older one, or the objects, whose 901st part is a fault.
      */
-    private static final int PART_ROOM = MOST_PARTS + 3 * 2700;
+    private static final int PART_ROOM = MOST_PARTS + 3 * MOST_TAPE;
 
     private final Text text = new Text();
     private final Parts parts = new Parts(text);

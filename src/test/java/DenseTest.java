@@ -24,6 +24,7 @@ public final class DenseTest {
     public static void main(String[] args) {
         reopened();
         reopenedBehind900Parts();
+        objectsOf900Parts();
         fullOrBroken();
         int runs = args.length > 0 ? Integer.parseInt(args[0]) : RUNS;
         Desk.says("runs drawn by lot");
@@ -100,6 +101,21 @@ public final class DenseTest {
         d.trailer();
         d.find("B");
         Desk.due("items of B", d.look(1), 54);
+    }
+
+    private static void objectsOf900Parts() {
+        Desk.says("if all of them together have more than 900 PARTS (.. trailers are none ..)");
+        for (int more = 0; more <= 1; more++) {
+            String trailer = "<</Size 3/A" + rows(19) + "/B" + row(30) + ">>";
+            String text = new Paper().object(0, rows(9)).object(1, row(23)).object(2, more == 0 ? "1" : "[1]").trailer(trailer).last().toString();
+            Desk d = new Desk();
+            for (int times = 0; times < 2; times++) {
+                Desk.due("open of " + (900 + more) + " parts", d.open(text), more == 0 ? 0 : 5);
+                Desk.due("parts", d.count(5), more == 0 ? 900 : 0);
+                Desk.due("put", d.put(2, "[1]"), more == 0 ? PaperFile.FULL : PaperFile.NONE);
+                Desk.due("put", d.put(2, "2"), more == 0 ? 3 : PaperFile.NONE);
+            }
+        }
     }
 
     private static void fullOrBroken() {
